@@ -35,6 +35,8 @@ public final class ThrowersBag {
         906, 914, 921, 927, 934, 940, 946, 951, 956, 961, 966, 970, 974,
         978, 982, 985, 988, 990, 993, 995, 996, 998, 999, 999, 1000, 1000};
 
+    /** SIN of 0 to 449 degrees: COS(d) is SIN(d + 90), and a flight needs six of them a tick. */
+    private final int[] wave = sineWave();
     private final Stick[] sticks = new Stick[MOST_STICKS];
     private int stickCount = 0;
     private final Wind[] winds = new Wind[MOST_WINDS];
@@ -42,9 +44,9 @@ public final class ThrowersBag {
     private final Wind calm = new Wind();
     private final Meadow meadow = new Meadow();
     /** The latest fly(), with all its ticks. */
-    private final Flight latest = new Flight(LAST_TICK + 1);
+    private final Flight latest = new Flight(wave, LAST_TICK + 1);
     /** What other calls fly: it must not disturb the latest fly(), and keeps no ticks. */
-    private final Flight trial = new Flight(0);
+    private final Flight trial = new Flight(wave, 0);
     private final Aim trialAim = new Aim();
     private final int[] choice = new int[CHOICE_PARTS];
     private boolean hasChoice = false;
@@ -189,7 +191,7 @@ public final class ThrowersBag {
         if (!within(which, 0, 1) || !isDirection(d)) {
             return BAD - 10000;
         }
-        return which == 0 ? sineOf(d) : cosineOf(d);
+        return wave[which == 0 ? d : d + 90];
     }
 
     // ---- 2 throws
@@ -227,8 +229,14 @@ public final class ThrowersBag {
         if (throwable == 0) {
             return NOT;
         }
+        int most = -1;
+        for (int stick = 0; stick < stickCount; stick++) {
+            if ((throwable >> stick & 1) == 1) {
+                most = bestOfStick(stick, winds, most);
+            }
+        }
         hasChoice = true;
-        return bestChoice(throwable, winds);
+        return most;
     }
 
     public int chosen(int what) {
@@ -586,23 +594,18 @@ public final class ThrowersBag {
 
     // ---- flying
 
-    /** Of 0 .. 359; round beyond, so that no index can leave the table. */
-    private static int sineOf(int degrees) {
-        int d = Math.floorMod(degrees, 360);
-        if (d <= 90) {
-            return SINES[d];
+    private static int[] sineWave() {
+        int[] sines = new int[450];
+        for (int d = 0; d <= 90; d++) {
+            sines[d] = SINES[d];
+            sines[180 - d] = SINES[d];
+            sines[180 + d] = -SINES[d];
+            sines[360 - d] = -SINES[d];
         }
-        if (d <= 180) {
-            return SINES[180 - d];
+        for (int d = 360; d < 450; d++) {
+            sines[d] = sines[d - 360];
         }
-        if (d <= 270) {
-            return -SINES[d - 180];
-        }
-        return -SINES[360 - d];
-    }
-
-    private static int cosineOf(int degrees) {
-        return sineOf(degrees + 90);
+        return sines;
     }
 
     /** Flies a throw with a bend that need not be the stick's own. */
@@ -624,16 +627,7 @@ public final class ThrowersBag {
 
     // ---- choosing
 
-    private int bestChoice(int stickBits, int windBits) {
-        int most = -1;
-        for (int stick = 0; stick < stickCount; stick++) {
-            if ((stickBits >> stick & 1) == 1) {
-                most = bestOfStick(stick, windBits, most);
-            }
-        }
-        return most;
-    }
-
+    /** Remembers what comes back in more winds than mostSoFar; answers in how many, or mostSoFar. */
     private int bestOfStick(int stick, int windBits, int mostSoFar) {
         int most = mostSoFar;
         for (int lean : CHOICE_LEANS) {
@@ -791,7 +785,7 @@ public final class ThrowersBag {
         int liftAt(int speed, int spin) {
             int band = speed < 60 ? 0 : speed < 120 ? 1 : speed < 180 ? 2 : 3;
             int lifted = lifts[band] * spin / 1000;
-            if (isWinged()) {
+            if (hover != NO_HOVER) {
                 return spin < 300 ? lifted + hover : lifted;
             }
             return spin < 100 ? 0 : lifted;
@@ -815,10 +809,6 @@ public final class ThrowersBag {
 
     private static final class Tree {
         private int x, y, thick, high;
-
-        boolean stops(Flight flight) {
-            return flight.height <= high && flight.isNear(x, y, thick);
-        }
     }
 
     /** What flights end in: the trees, and the ring around the thrower. */
@@ -845,15 +835,6 @@ public final class ThrowersBag {
             treeCount++;
             return treeCount - 1;
         }
-
-        int firstTreeThatStops(Flight flight) {
-            for (int i = 0; i < treeCount; i++) {
-                if (trees[i].stops(flight)) {
-                    return i;
-                }
-            }
-            return NONE;
-        }
     }
 
     /** How a throw is thrown; stick and wind by their numbers. */
@@ -878,9 +859,11 @@ public final class ThrowersBag {
         private int tick = 0;
         private int ended = IN_THE_AIR;
         private int treeHit = NONE;
+        private final int[] wave;
         private final int[] trail;
 
-        Flight(int ticksKept) {
+        Flight(int[] wave, int ticksKept) {
+            this.wave = wave;
             trail = new int[ticksKept * PARTS];
         }
 
@@ -901,15 +884,15 @@ public final class ThrowersBag {
 
         void step(Stick stick, int bend, Wind wind) {
             tick++;
-            int rise = (stick.liftAt(speed, spin) * cosineOf(lean) / 1000 - stick.weight) / 10;
+            int rise = (stick.liftAt(speed, spin) * wave[lean + 90] / 1000 - stick.weight) / 10;
             climb = Math.max(-80, Math.min(80, climb + rise));
             height += climb;
-            way = Math.floorMod(way + (stick.grip + bend) * spin * sineOf(lean) / 100000, 36000);
-            x += speed * sineOf(way / 100) / 1000;
-            y += speed * cosineOf(way / 100) / 1000;
+            way = Math.floorMod(way + (stick.grip + bend) * spin * wave[lean] / 100000, 36000);
+            x += speed * wave[way / 100] / 1000;
+            y += speed * wave[way / 100 + 90] / 1000;
             int band = Wind.bandAt(height);
-            x += wind.speeds[band] * sineOf(wind.tos[band]) / 1000;
-            y += wind.speeds[band] * cosineOf(wind.tos[band]) / 1000;
+            x += wind.speeds[band] * wave[wind.tos[band]] / 1000;
+            y += wind.speeds[band] * wave[wind.tos[band] + 90] / 1000;
             spin = Math.max(0, spin - stick.loss);
             speed = Math.max(20, speed - stick.drag);
             if (tick % 4 == 0) {
@@ -918,7 +901,12 @@ public final class ThrowersBag {
         }
 
         void endIn(Meadow meadow) {
-            treeHit = meadow.firstTreeThatStops(this);
+            for (int i = 0; i < meadow.treeCount && treeHit == NONE; i++) {
+                Tree tree = meadow.trees[i];
+                if (height <= tree.high && isNear(tree.x, tree.y, tree.thick)) {
+                    treeHit = i;
+                }
+            }
             if (treeHit != NONE) {
                 ended = IN_A_TREE;
             } else if (height <= 0) {
@@ -931,24 +919,22 @@ public final class ThrowersBag {
         }
 
         /** In long: a flight goes so far that the squares leave int. */
-        boolean isNear(int placeX, int placeY, int reach) {
-            return squareOf(x - placeX) + squareOf(y - placeY) <= squareOf(reach);
-        }
-
-        private static long squareOf(int v) {
-            return (long) v * v;
+        boolean isNear(int placeX, int placeY, long reach) {
+            long dx = x - placeX;
+            long dy = y - placeY;
+            return dx * dx + dy * dy <= reach * reach;
         }
 
         /** The whole root, bit by bit: no flight ends 2 ** 20 away. */
         int distance() {
-            long square = squareOf(x) + squareOf(y);
-            int root = 0;
+            long square = (long) x * x + (long) y * y;
+            long root = 0;
             for (int bit = 1 << 19; bit > 0; bit >>= 1) {
-                if (squareOf(root + bit) <= square) {
+                if ((root + bit) * (root + bit) <= square) {
                     root += bit;
                 }
             }
-            return root;
+            return (int) root;
         }
 
         void note() {
@@ -1100,7 +1086,13 @@ public final class ThrowersBag {
 
         /** As the lane's own type keeps it: the lowest bits. */
         void put(int i, int v) {
-            items[i] = lane == 0 ? (byte) v : lane == 1 ? (short) v : v;
+            if (lane == 0) {
+                items[i] = (byte) v;
+            } else if (lane == 1) {
+                items[i] = (short) v;
+            } else {
+                items[i] = v;
+            }
         }
     }
 }

@@ -228,6 +228,16 @@ public final class ChoicesTest {
             two 1 = 1
             two 100 = 100
             """);
+        Script.run(check, "promise 21: the greatest n", TWO + """
+            fly 0 0 0 128 800 0 = 2
+            ticks = 140
+            fly 1 0 0 87 800 0 = 2
+            ticks = 40
+            keep 0 0 0 0 128 800 0 = 1
+            keep 1 1 0 0 87 800 0 = 1
+            two 99 = 1
+            two 100 = 200
+            """);
         Script.run(check, "promise 21: far apart", TWO + """
             keep 0 0 0 0 200 800 0 = 1   // tick 400
             keep 1 1 0 0 90 800 0 = 1
@@ -249,6 +259,10 @@ public final class ChoicesTest {
             keep 0 0 0 0 100 800 -1 = 1
             two 5 = NONE
             keep 1 0 0 0 90 800 -1 = 1
+            two 5 = NOT
+            """);
+        Script.run(check, "promise 21: nothing is kept as the second", TWO + """
+            keep 0 1 0 0 100 800 0 = 1
             two 5 = NOT
             """);
     }

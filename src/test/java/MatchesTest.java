@@ -5,6 +5,7 @@ public final class MatchesTest {
     public static void main(String[] args) {
         match();
         style();
+        styleAtFirst();
         points();
         wholeRoots();
         best();
@@ -80,6 +81,35 @@ public final class MatchesTest {
             points 0 0 = 0
             style 45 0 120 1000 = 1
             points 0 0 = 0
+            """);
+    }
+
+    /**
+     * A tree at the first tick's place, and a lift for the first tick alone: a little more (or less) of lean
+     * or spin, and it is one higher (or lower) there.
+     */
+    private static void styleAtFirst() {
+        Script.run(check, "promise 24: spin 800, no more", """
+            plain 99 0 1 10 = 0
+            lift 0 2 246 = 0     // 196 times COS(45), less 99: 39; of spin 801 40
+            tree 0 120 1 153 = 0
+            points 0 -1 = 0
+            style 45 0 120 800 = 1
+            points 0 -1 = 0
+            fly 0 45 0 120 800 -1 = 3
+            at 1 2 = 153
+            style 45 0 120 801 = 1
+            points 0 -1 = 28
+            """);
+        Script.run(check, "promise 24: spin 800, no less", """
+            plain 60 0 1 10 = 0
+            lift 0 2 125 = 0     // 100 times COS(45), less 60: 10; of spin 799 9
+            tree 0 120 1 150 = 0
+            points 0 -1 = 27     // 680 away
+            style 45 0 120 799 = 1
+            points 0 -1 = 0
+            style 46 0 120 800 = 1
+            points 0 -1 = 0
             """);
     }
 

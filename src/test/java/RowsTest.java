@@ -12,6 +12,7 @@ public final class RowsTest {
         unrow();
         rows();
         rowsInOrder();
+        rowsAsByRow();
         rowsFull();
         check.end();
     }
@@ -352,6 +353,26 @@ public final class RowsTest {
             check.due("miss(" + r + ", 0)", bag.miss(r, 0), 2 * r);
         }
         check.due("rows(3, 1, 5, 8)", bag.rows(3, 1, 5, 8), ThrowersBag.INDEX);
+    }
+
+    /** Of a stick that turns, every item counts: as by row(), so by rows(). */
+    private static void rowsAsByRow() {
+        check.about("promise 32: as by row()");
+        int[] one = {1, 45, 33, 77, 444, 12, -34};
+        ThrowersBag bag = new ThrowersBag();
+        bag.plain(10, 0, 1, 0);
+        bag.plain(20, 30, 2, 1);
+        bag.lift(1, 1, 30);
+        bag.row(one[0], one[1], one[2], one[3], one[4], one[5], one[6]);
+        bag.sheet(0, 2, 7);
+        for (int c = 0; c < 7; c++) {
+            bag.item(0, 2, c, one[c]);
+        }
+        check.due("rows(0, 2, 0, 1)", bag.rows(0, 2, 0, 1), 2);
+        check.is("it is not beyond 9999", bag.miss(0, 0) < 9999);
+        for (int bend = -9; bend <= 9; bend++) {
+            check.due("miss(1, " + bend + ")", bag.miss(1, bend), bag.miss(0, bend));
+        }
     }
 
     private static void rowsFull() {
