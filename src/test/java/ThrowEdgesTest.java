@@ -300,6 +300,14 @@ public final class ThrowEdgesTest {
             fly 0 30 1 30 399 -1 = 4     // 1.995 less
             at 1 4 = 99
             """);
+        Script.run(check, "terms: cut toward 0: the way of a turn of 399999, of 999999", """
+            plain 5 1 1 0 = 0
+            fly 0 62 0 30 453 -1 = 4     // 453 times 883 by 100000
+            at 1 4 = 3
+            plain 5 7 1 0 = 1
+            fly 1 88 0 30 143 -1 = 4     // 7 times 143 times 999 by 100000
+            at 1 4 = 9
+            """);
         Script.run(check, "terms 2: SIN, COS of the way by 100, cut: 99 is 0 degrees, 100 is 1", """
             plain 5 10 1 0 = 0
             fly 0 90 0 250 990 -1 = 4
@@ -328,6 +336,27 @@ public final class ThrowEdgesTest {
             at 1 1 = -1
             fly 0 0 89 100 800 -1 = 4
             at 1 1 = 1
+            """);
+        Script.run(check, "terms: cut toward 0: 250 times 999 by 1000, and the wind's 60 times 999", """
+            plain 5 0 1 0 = 0
+            wind = 0
+            fly 0 0 88 250 800 -1 = 4
+            at 1 0 = 249
+            at 1 1 = 8
+            fly 0 0 2 250 800 -1 = 4
+            at 1 0 = 8
+            at 1 1 = 249
+            fly 0 0 268 250 800 -1 = 4
+            at 1 0 = -249
+            blows 0 0 60 88 = 0
+            fly 0 0 0 100 800 0 = 4
+            at 1 0 = 59
+            blows 0 0 60 2 = 60
+            fly 0 0 90 100 800 0 = 4
+            at 1 1 = 59
+            blows 0 0 60 178 = 60
+            fly 0 0 90 100 800 0 = 4
+            at 1 1 = -59
             """);
         Script.run(check, "terms 2: the wind's part is cut by itself", """
             plain 5 0 1 0 = 0
