@@ -8,6 +8,10 @@ final class Check {
         about = text;
     }
 
+    String about() {
+        return about;
+    }
+
     void due(String call, long got, long want) {
         calls++;
         if (got != want) {

@@ -288,7 +288,7 @@ public final class RefusalsTest {
             "sheet 3 0 0", "sheet 2 0 0", "sheet 2 1 1", "sheet 0 2 9", "sheet 1 0 5", "drop 2", "drop 0", "item 0 2 8 1",
             "item 0 2 5 78", "item 1 0 2 -4", "copy 0 3 0 4 1", "copy 1 2 1 0 1"};
         for (String change : changes) {
-            check.is("a Probe tells that something changes by " + change, Script.changes(SOME, change));
+            check.is("a Probe tells that something changes by " + change, Script.changes(check, SOME, change));
         }
     }
 }

@@ -73,17 +73,23 @@ final class Script {
     }
 
     /** Whether a Probe tells an object that was asked once more from one that was not. */
-    static boolean changes(String text, String call) {
-        Script script = new Script(new Check());
-        text.lines().forEach(script::line);
+    static boolean changes(Check check, String text, String call) {
+        return !differs(check, text, text + "\n*1 " + call).isEmpty();
+    }
+
+    /** By which Probe, and by which of its answers, two runs can be told apart that leave an object behind; or "". */
+    static String differs(Check check, String one, String other) {
+        Script first = new Script(check);
+        Script second = new Script(check);
+        one.lines().forEach(first::line);
+        other.lines().forEach(second::line);
         for (Probe probe : Probe.values()) {
-            ThrowersBag asked = script.again();
-            Call.of(call).on(asked);
-            if (!Arrays.equals(probe.look(asked), probe.look(script.again()))) {
-                return true;
+            int differs = Arrays.mismatch(probe.look(first.again()), probe.look(second.again()));
+            if (differs >= 0) {
+                return probe + ", answer " + differs;
             }
         }
-        return false;
+        return "";
     }
 
     private void line(String whole) {
