@@ -13,9 +13,11 @@ public final class SecondReadingTest {
         outOfSightNearBy();
         bendsInChoices();
         bendsInTwo();
+        lostOnceKept();
         bendsInMatches();
         explainedByItsOwnRows();
         sureByBend0();
+        explainedByAllRows();
         check.end();
     }
 
@@ -152,6 +154,22 @@ public final class SecondReadingTest {
             """);
     }
 
+    /** TWO IN THE AIR says nothing of the bag: kept is a throw, whatever becomes of its stick. */
+    private static void lostOnceKept() {
+        Script.run(check, "promises 7, 21: a stick that is lost after its throw was kept", BENT + """
+            bend 0 9 = 0
+            bend 1 9 = 0
+            keep 0 0 70 0 80 800 -1 = 1
+            keep 1 1 70 0 80 800 -1 = 1
+            lose 0 true = 1
+            two 7 = 7
+            lose 1 true = 1
+            two 7 = 7
+            lose 0 false = 0
+            two 7 = 7
+            """);
+    }
+
     private static void bendsInMatches() {
         Script.run(check, "promises 24 to 26: a stick is thrown with its bend", BENT + """
             style 70 0 80 800 = 1
@@ -216,6 +234,25 @@ public final class SecondReadingTest {
             }
             straight.bend(0, own);
             check.due("sure(0) of rows that are not bent, its own bend " + own, straight.sure(0), 0);
+        }
+    }
+
+    /** Without a lean all bends are alike: of 30 rows one alone tells, wherever it stands. */
+    private static void explainedByAllRows() {
+        check.about("promises 29, 30: all its rows, from the first to the last");
+        for (int tells = 0; tells < 30; tells++) {
+            ThrowersBag bag = new ThrowersBag();
+            bag.plain(10, 10, 1, 0);
+            for (int i = 0; i < 30; i++) {
+                if (i == tells) {
+                    bentRow(bag, 0, 3, 0);
+                } else {
+                    bag.row(0, 0, 0, 100, 800, 0, 1700);
+                }
+            }
+            check.due("rows", bag.count(4), 30);
+            check.due("explain(0), row " + tells + " tells", bag.explain(0), 3);
+            check.due("sure(0), row " + tells + " tells", bag.sure(0), 1);
         }
     }
 }
